@@ -58,14 +58,10 @@ public final class RoomsTest {
         Check.due("setCap(11, 20)", till.setCap(11, 20), 6);
         dueQueue(till, 11);
         Check.due("setCap(0, 20) of an empty room", till.setCap(0, 20), 0);
-        till.setCap(11, 4);
-        till.goOut(0);
-        till.advance(1);
-        till.buy(NONE);
         till.setCap(0, 0);
         till.advance(1);
         till.buy(NONE);
-        Check.due("the cap stays on the next day", till.enter(7, 0), false);
+        Check.due("the cap stays on the next day", till.enter(6, 0), false);
     }
 
     private static void promise8Close() {
