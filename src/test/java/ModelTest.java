@@ -1,7 +1,8 @@
-/** Runs of 512 calls, always the same ones, on the class and on the plain model of the document. */
+/** Runs of calls, always the same ones, on the class and on the plain model of the document. */
 public final class ModelTest {
     private static final int RUNS = 3000;
-    private static final int CALLS = 512;
+    /** An object answers 512 calls; the last 17 are for a look at the money. */
+    private static final int CALLS = 512 - 17;
     private static final int METHODS = 29;
     private static final long THROWN = Long.MAX_VALUE;
     private static final int[][] FAVOURED = {{7}, {6, 5}, {3, 6, 2}, {8}, {11}, {1}, {16}, {2, 3}};

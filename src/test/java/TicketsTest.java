@@ -1,243 +1,239 @@
-/** Promises 1 to 6: a new object, prices, tickets, members. */
+/** Prices, tickets and members: promises 1 to 6, and what the terms say of them. */
 public final class TicketsTest {
-    private static final int NONE = MuseumTill.NONE;
-    private static final int LOW = Integer.MIN_VALUE, HIGH = Integer.MAX_VALUE;
-
     public static void main(String[] args) {
-        promise1NewObject();
-        promise2SetPrice();
-        promise3Buy();
-        promise4Admit();
-        promise4AdmitAfterGivingBack();
-        promise5GiveBack();
-        promise5GiveBackOfAllSorts();
-        promise6Join();
+        newObject();
+        housesAndMembers();
+        prices();
+        eightyTickets();
+        ticketsOfADay();
+        buying();
+        memberTickets();
+        guestTickets();
+        halfTheDayPrice();
+        givingBack();
+        givingBackAndRooms();
+        givingBackWhatItCosts();
+        memberships();
         Check.end();
     }
 
-    private static void promise1NewObject() {
-        MuseumTill till = new MuseumTill();
-        StringBuilder rooms = new StringBuilder();
-        for (int room = 0; room < 12; room++) {
-            rooms.append(" r").append(room).append(":0");
-        }
-        Check.due("a new object", Check.state(till),
-                "day 0" + rooms + " h-1:0=0 h0:0=0 h1:0=0 h2:0=0 h3:0=0 held 0 takings 0");
-        Check.badState(till, "admit without a membership", () -> till.admit(0, false));
-        MuseumTill other = new MuseumTill();
-        other.buy(0);
-        other.addWork(0);
-        other.join(0);
-        Check.due("tickets() of the untouched one", till.tickets(), 0);
-        Check.due("works of the untouched one", Check.works(till), 0);
-        Check.due("join(0) of the untouched one", till.join(0), 29);
+    private static void newObject() {
+        Runs.run("1: The day 0", "day() 0", "advance(1) 1");
+        Runs.run("1: no tickets", "tickets() 0", "whereIs(0) throws IndexOutOfBounds", "buy(0) 0", "tickets() 1");
+        Runs.run("1: no memberships", "held() 0", "admit(0..5, false|true) throws IllegalState",
+                "join(0..5) 29", "admit(0..5, false) 0..5");
+        Runs.run("1: no works", "views(0) throws IndexOutOfBounds", "addWork(0) 0", "views(0) 0");
+        Runs.run("Terms: The group and each house have money, 0 at first", "allMoney() 0 0 0 0 0", "takings() 0");
+        Runs.run("Terms: money, which may be below 0: the group's",
+                "join(0)", "give(1, 3, 0) 3", "allMoney() 0 0 3 0 0", "give(1, 4, 0) 5", "allMoney() -1 0 8 0 0");
+        Runs.run("Terms: money, which may be below 0: a house's",
+                "addWork(0)", "lend(0, 11, 1) 3", "give(3, 1, NONE)", "2 x buy(3)",
+                "enter(0, 11) true", "allMoney() 0 1 0 0 0", "enter(1, 11) true", "allMoney() 0 2 0 0 -1");
+        Runs.run("Terms: at most 512 calls: the 512th holds",
+                "80 x buy(NONE) 0..79", "215 x visit(79, 11) true", "enter(79, 0) true", "seen(79) 2049");
     }
 
-    private static void promise2SetPrice() {
-        MuseumTill till = new MuseumTill();
-        Check.due("setPrice(NONE, 10000)", till.setPrice(NONE, 10000), 1500);
-        Check.due("setPrice(NONE, 0)", till.setPrice(NONE, 0), 10000);
-        for (int house = 0; house < 4; house++) {
-            Check.due("setPrice(house, 7)", till.setPrice(house, 7 + house), 600);
-        }
-        for (int house = 0; house < 4; house++) {
-            Check.due("setPrice(house, 0)", till.setPrice(house, 0), 7 + house);
-        }
-        for (int house : new int[] {LOW, -2, 4, HIGH}) {
-            Check.outOfBounds(till, "setPrice(" + house + ", 1)", () -> till.setPrice(house, 1));
-            Check.outOfBounds(till, "setPrice(" + house + ", -1)", () -> till.setPrice(house, -1));
-        }
-        for (int price : new int[] {LOW, -1, 10001, HIGH}) {
-            Check.badArgument(till, "setPrice(0, " + price + ")", () -> till.setPrice(0, price));
-            Check.badArgument(till, "setPrice(NONE, " + price + ")", () -> till.setPrice(NONE, price));
-        }
-        Check.due("setPrice(0, 5) after refusals", till.setPrice(0, 5), 0);
-        Check.due("setPrice(NONE, 5) after refusals", till.setPrice(NONE, 5), 0);
-        till.buy(0);
-        till.setPrice(0, 900);
-        Check.due("held() at the price of the sale", till.held(), 5);
-        till.advance(1);
-        Check.due("setPrice(0, 1) on the next day", till.setPrice(0, 1), 900);
-    }
-
-    private static void promise3Buy() {
-        MuseumTill till = new MuseumTill();
-        Check.due("buy(0)", till.buy(0), 0);
-        Check.due("held() after buy(0)", till.held(), 600);
-        Check.due("buy(NONE)", till.buy(NONE), 1);
-        Check.due("held() after buy(NONE)", till.held(), 2100);
-        Check.due("buy(3)", till.buy(3), 2);
-        Check.due("takings()", till.takings(), 2700);
-        for (int room = 0; room < 12; room++) {
-            int asked = room;
-            if (room < 9) {
-                Check.badState(till, "SINGLE of house 3 into " + room, () -> till.enter(2, asked) ? 1 : 0);
-            } else {
-                Check.due("SINGLE of house 3 into " + room, till.enter(2, room), true);
-                till.goOut(2);
+    private static void housesAndMembers() {
+        for (int house = 0; house <= 3; house++) {
+            int first = 3 * house;
+            StringBuilder others = new StringBuilder();
+            for (int room = 0; room < 12; room++) {
+                if (room < first || room > first + 2) {
+                    others.append(others.length() == 0 ? "" : "|").append(room);
+                }
             }
-            Check.due("DAY into " + room, till.enter(1, room), true);
-            till.goOut(1);
+            Runs.run("Terms: the rooms 3 * h to 3 * h + 2 are in the house h", "buy(" + house + ") 0",
+                    "visit(0, " + first + ".." + (first + 2) + ") true",
+                    "enter(0, " + others + ") throws IllegalState");
         }
-        for (int house : new int[] {LOW, -2, 4, HIGH}) {
-            Check.outOfBounds(till, "buy(" + house + ")", () -> till.buy(house));
-        }
-        till.advance(1);
-        for (int number = 3; number < 80; number++) {
-            Check.due("buy", till.buy(number % 5 - 1), number);
-        }
-        Check.due("tickets()", till.tickets(), 80);
-        Check.badState(till, "buy(0) as the 81st", () -> till.buy(0));
-        Check.badState(till, "buy(NONE) as the 81st", () -> till.buy(NONE));
-        Check.outOfBounds(till, "buy(4) as the 81st", () -> till.buy(4));
-        till.advance(1);
-        Check.badState(till, "buy(0) as the 81st, a day later", () -> till.buy(0));
+        Runs.run("Terms: There are the members 0 to 5",
+                "join(LOW|-1|6|HIGH) throws IndexOutOfBounds", "join(0..5) 29");
+        Runs.run("Terms: All but SINGLE ones are for all houses",
+                "join(0)", "buy(NONE) 0", "admit(0, false) 1", "admit(0, true) 2", "visit(0..2, 0..11) true");
     }
 
-    private static void promise4Admit() {
-        MuseumTill till = new MuseumTill();
-        for (int member : new int[] {LOW, -1, 6, HIGH}) {
-            Check.outOfBounds(till, "admit(" + member + ", false)", () -> till.admit(member, false));
-            Check.outOfBounds(till, "admit(" + member + ", true)", () -> till.admit(member, true));
+    private static void prices() {
+        Runs.run("2: house: 0 to 3, or NONE for the day price",
+                "setPrice(LOW|-2|4|HIGH, 600) throws IndexOutOfBounds", "setPrice(NONE, 7) 1500",
+                "setPrice(0..3, 7) 600", "setPrice(-1..3, 7) 7");
+        Runs.run("2: price: 0 to 10000",
+                "setPrice(-1..3, LOW|-1|10001|HIGH) throws IllegalArgument", "setPrice(-1..3, 0)",
+                "setPrice(-1..3, LOW|-1|10001|HIGH) throws IllegalArgument", "setPrice(-1..3, 1) 0",
+                "setPrice(-1..3, 9999) 1", "setPrice(-1..3, 10000) 9999", "setPrice(-1..3, 10000) 10000");
+        Runs.run("2: Returns the price before: each has its own",
+                "setPrice(-1..3, 1)", "setPrice(0, 10) 1", "setPrice(3, 13) 1", "setPrice(NONE, 9) 1",
+                "setPrice(-1..3, 0) 9|10|1|1|13", "setPrice(3, 5) 0");
+    }
+
+    private static void eightyTickets() {
+        Runs.run("Terms: Tickets are numbered from 0; there can be 80 in all",
+                "79 x buy(0) 0..78", "tickets() 79", "buy(NONE) 79", "tickets() 80",
+                "buy(-1..3) throws IllegalState", "advance(1)", "buy(NONE|0) throws IllegalState", "tickets() 80");
+        Runs.run("3: IndexOutOfBoundsException ahead of: if there are 80",
+                "80 x buy(0)", "buy(LOW|-2|4|HIGH) throws IndexOutOfBounds");
+        Runs.run("Terms: 80 in all, void ones too",
+                "79 x buy(1)", "close(3..5, true)", "giveBack(78) 600", "tickets() 79", "buy(0) 79",
+                "giveBack(77) 600", "buy(0|NONE) throws IllegalState", "tickets() 80");
+        Runs.run("4: if there are 80: a MEMBER ticket",
+                "join(0..1)", "79 x buy(0)", "admit(0, false) 79", "admit(1, false) throws IllegalState",
+                "admit(-1|6, false) throws IndexOutOfBounds");
+        Runs.run("4: if there are 80: a GUEST ticket",
+                "join(0)", "admit(0, false) 0", "78 x buy(0)", "admit(0, true) 79", "admit(0, true) throws IllegalState",
+                "admit(-1|6, true) throws IndexOutOfBounds");
+    }
+
+    private static void ticketsOfADay() {
+        Runs.run("Terms: A ticket is for the day on which it is bought",
+                "advance(4)", "buy(0) 0", "buy(NONE) 1", "visit(0..1, 0) true", "advance(1)",
+                "enter(0..1, 0..1) throws IllegalState", "buy(0) 2", "enter(2, 0) true");
+        Runs.run("Terms: for the day: MEMBER and GUEST ones too",
+                "join(0)", "admit(0, false)", "admit(0, true)", "visit(0..1, 0) true", "advance(1)",
+                "enter(0..1, 0) throws IllegalState");
+        Runs.run("Terms: What a ticket costs is held until the day ends",
+                "buy(0)", "buy(NONE)", "held() 2100", "allMoney() 0 0 0 0 0", "advance(1)", "held() 0",
+                "allMoney() 2100 0 0 0 0", "buy(3)", "held() 600", "advance(1)", "held() 0", "allMoney() 2700 0 0 0 0");
+    }
+
+    private static void buying() {
+        Runs.run("3: house: 0 to 3 for a SINGLE one, NONE for a DAY one",
+                "buy(LOW|-2|4|HIGH) throws IndexOutOfBounds", "tickets() 0", "buy(-1..3) 0..4", "tickets() 5");
+        Runs.run("Terms: a SINGLE one at the price of that (600 at first)",
+                "buy(0..3)", "held() 2400", "setPrice(2, 601)", "buy(2)", "held() 3001", "buy(3)", "held() 3601");
+        Runs.run("Terms: a DAY one at the day price (1500 at first)",
+                "buy(NONE)", "held() 1500", "setPrice(0..3, 0)", "buy(NONE)", "held() 3000",
+                "setPrice(NONE, 1501)", "buy(NONE)", "held() 4501");
+        Runs.run("Terms: at the price: the lowest and the highest",
+                "setPrice(0|NONE, 0)", "buy(0|NONE)", "held() 0", "takings() 0",
+                "setPrice(0|NONE, 10000) 0", "buy(0|NONE)", "held() 20000", "takings() 20000",
+                "advance(1)", "allMoney() 20000 0 0 0 0");
+        Runs.run("Terms: What a ticket costs: no later price",
+                "buy(0)", "setPrice(0, 10000) 600", "held() 600", "advance(1)", "allMoney() 600 0 0 0 0");
+    }
+
+    private static void memberTickets() {
+        Runs.run("4: member: 0 to 5",
+                "admit(LOW|-1|6|HIGH, false|true) throws IndexOutOfBounds", "join(0..5)", "admit(0..5, false) 0..5",
+                "admit(0..5, true) 6..11", "admit(LOW|-1|6|HIGH, false|true) throws IndexOutOfBounds");
+        Runs.run("4: if there is no membership",
+                "join(1)", "admit(0|2, false|true) throws IllegalState", "admit(1, false) 0",
+                "admit(0|2, false|true) throws IllegalState", "join(0)", "admit(0, false) 1");
+        Runs.run("4: if the membership is over",
+                "join(3) 29", "advance(29)", "admit(3, false) 0", "admit(3, true) 1", "advance(1)",
+                "admit(3, false|true) throws IllegalState", "join(3) 59", "admit(3, true) throws IllegalState",
+                "admit(3, false) 2");
+        Runs.run("Terms: a MEMBER one, once a day",
+                "join(0..1)", "admit(0, false) 0", "admit(0, false) throws IllegalState", "admit(1, false) 1",
+                "advance(1)", "admit(0, false) 2", "admit(0, false) throws IllegalState");
+        Runs.run("4: a MEMBER ticket of today that is not void",
+                "join(0)", "admit(0, false) 0", "close(0..11, true)", "admit(0, false) throws IllegalState",
+                "giveBack(0) 0", "admit(0, false) 1", "admit(0, false) throws IllegalState", "giveBack(1) 0",
+                "admit(0, false) 2");
+        Runs.run("Terms: a MEMBER one without a price",
+                "join(0)", "admit(0, false)", "held() 6000", "takings() 6000", "advance(1)", "allMoney() 200 0 0 0 0");
+    }
+
+    private static void guestTickets() {
+        Runs.run("Terms: a GUEST one of a member who has a MEMBER ticket of today",
+                "join(0..1)", "admit(0, true) throws IllegalState", "admit(0, false) 0", "admit(1, true) throws IllegalState",
+                "admit(0, true) 1", "advance(1)", "admit(0, true) throws IllegalState", "admit(0, false) 2",
+                "admit(0, true) 3");
+        Runs.run("4: none that is not void (with isGuest)",
+                "join(0)", "admit(0, false) 0", "close(0..11, true)", "giveBack(0) 0", "admit(0, true) throws IllegalState",
+                "admit(0, false) 1", "admit(0, true) 2");
+        Runs.run("Terms: at most 2 a day",
+                "join(0..1)", "admit(0..1, false) 0..1", "admit(0, true) 2", "admit(0, true) 3",
+                "admit(0, true) throws IllegalState", "admit(1, true) 4", "admit(1, true) 5",
+                "admit(0..1, true) throws IllegalState", "advance(1)", "admit(0, false) 6", "admit(0, true) 7",
+                "admit(0, true) 8", "admit(0, true) throws IllegalState");
+        Runs.run("Terms: at most 2 a day (void ones do not count)",
+                "join(0)", "admit(0, false)", "2 x admit(0, true)", "close(0..11, true)", "giveBack(1) 750",
+                "admit(0, true) 3", "admit(0, true) throws IllegalState", "giveBack(2..3) 750", "admit(0, true) 4",
+                "admit(0, true) 5", "admit(0, true) throws IllegalState");
+        Runs.run("a reading: guests of a void MEMBER ticket stay, and count",
+                "join(0)", "admit(0, false)", "admit(0, true)", "close(0..11, true)", "giveBack(0) 0", "close(4, false)",
+                "enter(1, 4) true", "admit(0, false) 2", "admit(0, true) 3", "admit(0, true) throws IllegalState");
+    }
+
+    private static void halfTheDayPrice() {
+        int[][] pricesAndHalves = {{0, 0}, {1, 0}, {2, 1}, {3, 1}, {1501, 750}, {9999, 4999}, {10000, 5000}};
+        for (int[] one : pricesAndHalves) {
+            Runs.run("Terms: a GUEST one at half the day price, rounded down",
+                    "join(0)", "admit(0, false)", "setPrice(NONE, " + one[0] + ") 1500", "admit(0, true) 1",
+                    "held() " + (6000 + one[1]), "takings() " + (6000 + one[1]), "setPrice(NONE, 700)",
+                    "close(0..11, true)", "giveBack(1) " + one[1], "held() 6000", "takings() 6000");
         }
-        Check.badState(till, "admit(5, false) without a membership", () -> till.admit(5, false));
-        till.join(5);
-        Check.badState(till, "admit(5, true) without a MEMBER ticket", () -> till.admit(5, true));
-        Check.due("admit(5, false)", till.admit(5, false), 0);
-        Check.due("held() after a MEMBER ticket", till.held(), 6000);
-        Check.badState(till, "admit(5, false) again", () -> till.admit(5, false));
-        till.setPrice(NONE, 1501);
-        Check.due("admit(5, true)", till.admit(5, true), 1);
-        Check.due("held() after a guest", till.held(), 6750);
-        till.setPrice(NONE, 1);
-        Check.due("admit(5, true) second", till.admit(5, true), 2);
-        Check.due("held() after a guest for nothing", till.held(), 6750);
-        Check.badState(till, "admit(5, true) third", () -> till.admit(5, true));
-        till.join(0);
-        Check.badState(till, "admit(0, true) by the ticket of another", () -> till.admit(0, true));
-        Check.due("admit(0, false)", till.admit(0, false), 3);
-        Check.due("admit(0, true)", till.admit(0, true), 4);
+    }
+
+    private static void givingBack() {
+        Runs.run("5: if there is no such ticket",
+                "giveBack(LOW|-1|0|HIGH) throws IndexOutOfBounds", "close(0..2, true)", "2 x buy(0)",
+                "giveBack(LOW|-1|2|HIGH) throws IndexOutOfBounds", "giveBack(0..1) 600");
+        Runs.run("5: if it is not of today",
+                "close(0..2, true)", "2 x buy(0)", "giveBack(0) 600", "advance(1)", "giveBack(1) throws IllegalState",
+                "buy(0)", "giveBack(2) 600", "giveBack(1) throws IllegalState");
+        Runs.run("5: or void",
+                "close(0..2, true)", "2 x buy(0)", "giveBack(0) 600", "giveBack(0) throws IllegalState",
+                "giveBack(1) 600", "giveBack(0..1) throws IllegalState", "takings() 0");
+        Runs.run("Terms: can be given back, if it has seen no room",
+                "2 x buy(0)", "visit(0, 1) true", "close(0..2, true)", "giveBack(0) throws IllegalState", "giveBack(1) 600");
+        Runs.run("Terms: seen no room: a queue is none",
+                "3 x buy(0)", "setCap(0, 1)", "enter(0, 0) true", "enter(1, 0) false", "enter(2, 0) false",
+                "goOut(0)", "close(0..2, true)", "giveBack(0..1) throws IllegalState", "giveBack(2) 600");
+        Runs.run("Terms: can be given back, if it is in no queue",
+                "buy(2)", "setCap(7, 0)", "close(6|8, true)", "enter(0, 7) false", "giveBack(0) throws IllegalState",
+                "goOut(0) 7", "giveBack(0) throws IllegalState", "close(7, true)", "giveBack(0) 600");
+        Runs.run("Terms: and it is void",
+                "join(0)", "buy(0)", "admit(0, false)", "close(0..11, true)", "giveBack(0) 600", "giveBack(1) 0",
+                "close(0..11, false)", "enter(0..1, 0) throws IllegalState", "goOut(0..1) throws IllegalState",
+                "whereIs(0..1) NONE", "seen(0..1) 0", "tickets() 2");
+    }
+
+    private static void givingBackAndRooms() {
         for (int room = 0; room < 12; room++) {
-            for (int ticket : new int[] {0, 1}) {
-                Check.due("enter(" + ticket + ", " + room + ")", till.enter(ticket, room), true);
-                till.goOut(ticket);
-            }
+            int house = room / 3;
+            String ofHouse = 3 * house + ".." + (3 * house + 2);
+            Runs.run("Terms: all rooms of the houses that it is for are closed: a SINGLE one", "buy(" + house + ")",
+                    "giveBack(0) throws IllegalState", "close(" + ofHouse + ", true)", "close(" + room + ", false)",
+                    "giveBack(0) throws IllegalState", "close(" + room + ", true)", "giveBack(0) 600");
+            Runs.run("Terms: all rooms of the houses that it is for are closed: the others",
+                    "join(0)", "buy(NONE)", "admit(0, false)", "admit(0, true)", "close(0..11, true)",
+                    "close(" + room + ", false)", "giveBack(0..2) throws IllegalState", "close(" + room + ", true)",
+                    "giveBack(0) 1500", "giveBack(2) 750", "giveBack(1) 0");
         }
-        till.advance(1);
-        Check.badState(till, "admit(5, true) on the next day", () -> till.admit(5, true));
-        Check.due("admit(5, false) on the next day", till.admit(5, false), 5);
-        Check.due("admit(5, true) on the next day", till.admit(5, true), 6);
-        till.advance(28);
-        Check.due("admit(5, false) on the last day", till.admit(5, false), 7);
-        till.advance(1);
-        Check.badState(till, "admit(5, false) when it is over", () -> till.admit(5, false));
-        Check.badState(till, "admit(5, true) when it is over", () -> till.admit(5, true));
-        till.join(5);
-        Check.due("admit(5, false) with a new one", till.admit(5, false), 8);
-        while (till.tickets() < 80) {
-            till.buy(0);
-        }
-        till.join(1);
-        Check.badState(till, "admit(1, false) as the 81st", () -> till.admit(1, false));
-        Check.badState(till, "admit(5, true) as the 81st", () -> till.admit(5, true));
     }
 
-    private static void promise4AdmitAfterGivingBack() {
-        MuseumTill till = new MuseumTill();
-        till.join(2);
-        till.admit(2, false);
-        till.admit(2, true);
-        till.admit(2, true);
-        Check.closeAll(till, 0, 11);
-        Check.due("giveBack of a guest", till.giveBack(1), 750);
-        Check.due("admit(2, true) in its stead", till.admit(2, true), 3);
-        Check.badState(till, "admit(2, true) once more", () -> till.admit(2, true));
-        Check.due("giveBack of the MEMBER ticket", till.giveBack(0), 0);
-        till.giveBack(3);
-        Check.badState(till, "admit(2, true) by a void ticket", () -> till.admit(2, true));
-        Check.due("admit(2, false) in its stead", till.admit(2, false), 4);
-        Check.due("admit(2, true) by the new one", till.admit(2, true), 5);
-        Check.badState(till, "admit(2, true): the guest of the void one counts", () -> till.admit(2, true));
+    private static void givingBackWhatItCosts() {
+        Runs.run("Terms: what it costs is paid back",
+                "setPrice(0, 10000)", "setPrice(1, 0)", "buy(0..1)", "buy(NONE)", "setPrice(-1..1, 5)",
+                "close(0..11, true)", "takings() 11500", "giveBack(0) 10000", "held() 1500", "takings() 1500",
+                "giveBack(1) 0", "takings() 1500", "giveBack(2) 1500", "held() 0", "takings() 0", "advance(1)",
+                "allMoney() 0 0 0 0 0");
+        Runs.run("5: a ticket given back brings nothing, the next one does",
+                "2 x buy(3)", "close(9..11, true)", "giveBack(0) 600", "advance(1)", "allMoney() 600 0 0 0 0");
     }
 
-    private static void promise5GiveBack() {
-        MuseumTill till = new MuseumTill();
-        for (int ticket : new int[] {LOW, -1, 0, HIGH}) {
-            Check.outOfBounds(till, "giveBack(" + ticket + ")", () -> till.giveBack(ticket));
-        }
-        till.setPrice(1, 333);
-        till.buy(1);
-        till.buy(1);
-        till.buy(1);
-        Check.badState(till, "giveBack(0) with open rooms", () -> till.giveBack(0));
-        till.enter(1, 4);
-        Check.closeAll(till, 3, 4);
-        Check.badState(till, "giveBack(0) with one open room", () -> till.giveBack(0));
-        till.close(3, false);
-        till.close(5, true);
-        Check.badState(till, "giveBack(0) with another open room", () -> till.giveBack(0));
-        till.close(3, true);
-        till.setPrice(1, 5);
-        Check.due("giveBack(0)", till.giveBack(0), 333);
-        Check.due("held()", till.held(), 666);
-        Check.due("takings()", till.takings(), 666);
-        Check.badState(till, "giveBack(0) again", () -> till.giveBack(0));
-        Check.badState(till, "giveBack(1) that has seen a room", () -> till.giveBack(1));
-        Check.due("tickets() with a void one", till.tickets(), 3);
-        till.close(4, false);
-        Check.badState(till, "enter of a void one", () -> till.enter(0, 4) ? 1 : 0);
-        till.close(4, true);
-        till.advance(1);
-        Check.badState(till, "giveBack(2) on the next day", () -> till.giveBack(2));
-        Check.dueMoney("after a void one", till, 333, 0, 333, 0, 0);
-    }
-
-    private static void promise5GiveBackOfAllSorts() {
-        MuseumTill till = new MuseumTill();
-        till.join(0);
-        till.buy(NONE);
-        till.admit(0, false);
-        till.admit(0, true);
-        till.buy(2);
-        till.setCap(0, 0);
-        till.enter(0, 0);
-        Check.badState(till, "giveBack(0) in a queue", () -> till.giveBack(0));
-        for (int last = 10; last >= 8; last--) {
-            Check.closeAll(till, 0, 11);
-            till.close(last, false);
-            for (int ticket = 0; ticket < 3; ticket++) {
-                int given = ticket;
-                Check.badState(till, "giveBack(" + ticket + ") with an open room", () -> till.giveBack(given));
-            }
-        }
-        Check.badState(till, "giveBack(3) with an open room", () -> till.giveBack(3));
-        till.close(8, true);
-        Check.due("giveBack(0) that was in a queue", till.giveBack(0), 1500);
-        Check.due("giveBack(1)", till.giveBack(1), 0);
-        Check.badState(till, "giveBack(1) again", () -> till.giveBack(1));
-        Check.due("giveBack(2)", till.giveBack(2), 750);
-        Check.due("giveBack(3)", till.giveBack(3), 600);
-        till.advance(1);
-        Check.dueMoney("after void ones", till, 200, 0, 0, 0, 0);
-    }
-
-    private static void promise6Join() {
-        MuseumTill till = new MuseumTill();
-        for (int member : new int[] {LOW, -1, 6, HIGH}) {
-            Check.outOfBounds(till, "join(" + member + ")", () -> till.join(member));
-        }
-        Check.due("join(0)", till.join(0), 29);
-        Check.due("takings() after join", till.takings(), 6000);
-        Check.due("held() after join", till.held(), 6000);
-        Check.badState(till, "join(0) again", () -> till.join(0));
-        till.advance(7);
-        Check.due("join(5) on the day 7", till.join(5), 36);
-        till.advance(22);
-        Check.badState(till, "join(0) on its last day", () -> till.join(0));
-        till.advance(1);
-        Check.due("join(0) when it is over", till.join(0), 59);
-        Check.badState(till, "join(5) that is not over", () -> till.join(5));
-        Check.due("takings() after three", till.takings(), 18000);
-        Check.dueMoney("after 30 days", till, 30 * 200 + 23 * 200, 0, 0, 0, 0);
+    private static void memberships() {
+        Runs.run("6: member: 0 to 5", "join(LOW|-1|6|HIGH) throws IndexOutOfBounds", "join(0..5) 29",
+                "join(LOW|-1|6|HIGH) throws IndexOutOfBounds", "takings() 36000");
+        Runs.run("6: if it has one that is not over",
+                "join(0) 29", "join(0) throws IllegalState", "advance(1)", "join(0) throws IllegalState", "advance(28) 29",
+                "join(0) throws IllegalState", "advance(1) 30", "join(0) 59", "join(0) throws IllegalState",
+                "advance(29) 59", "join(0) throws IllegalState", "advance(1) 60", "join(0) 89");
+        Runs.run("6: not over: each member has its own",
+                "join(0) 29", "advance(7)", "join(5) 36", "advance(23)", "join(5) throws IllegalState", "join(0) 59",
+                "advance(6) 36", "join(5) throws IllegalState", "advance(1)", "join(5) 66");
+        Runs.run("Terms: A membership is for 30 days, today counted",
+                "advance(3)", "join(2) 32", "held() 6000", "advance(29) 32", "held() 200", "admit(2, false) 0",
+                "advance(1) 33", "held() 0", "admit(2, false) throws IllegalState");
+        Runs.run("Terms: and costs 6000: 200 are for each of its days, held until then",
+                "join(0)", "takings() 6000", "held() 6000", "allMoney() 0 0 0 0 0", "advance(1)", "held() 5800",
+                "allMoney() 200 0 0 0 0", "advance(28)", "held() 200", "allMoney() 5800 0 0 0 0", "advance(1)", "held() 0",
+                "allMoney() 6000 0 0 0 0", "advance(1)", "held() 0", "allMoney() 6000 0 0 0 0");
+        Runs.run("Terms: It can be bought again when it is over: days between are without",
+                "join(0) 29", "advance(35)", "join(0) 64", "held() 6000", "takings() 12000", "advance(1)",
+                "allMoney() 6200 0 0 0 0", "advance(29)", "allMoney() 12000 0 0 0 0");
+        Runs.run("6: Returns its last day, also beyond the last one there is",
+                "33 x advance(60)", "join(0) 2009", "advance(20) 2000", "join(0) throws IllegalState", "join(1) 2029",
+                "held() 8000", "allMoney() 4000 0 0 0 0");
     }
 }
