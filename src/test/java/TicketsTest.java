@@ -60,6 +60,8 @@ public final class TicketsTest {
                 "setPrice(-1..3, LOW|-1|10001|HIGH) throws IllegalArgument", "setPrice(-1..3, 0)",
                 "setPrice(-1..3, LOW|-1|10001|HIGH) throws IllegalArgument", "setPrice(-1..3, 1) 0",
                 "setPrice(-1..3, 9999) 1", "setPrice(-1..3, 10000) 9999", "setPrice(-1..3, 10000) 10000");
+        Runs.run("2: IndexOutOfBoundsException first", "setPrice(LOW|-2|4|HIGH, LOW|-1|10001|HIGH) throws IndexOutOfBounds",
+                "setPrice(-1..3, 8) 1500|600|600|600|600");
         Runs.run("2: Returns the price before: each has its own",
                 "setPrice(-1..3, 1)", "setPrice(0, 10) 1", "setPrice(3, 13) 1", "setPrice(NONE, 9) 1",
                 "setPrice(-1..3, 0) 9|10|1|1|13", "setPrice(3, 5) 0");
