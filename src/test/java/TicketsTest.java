@@ -151,6 +151,10 @@ public final class TicketsTest {
                 "join(0)", "admit(0, false)", "2 x admit(0, true)", "close(0..11, true)", "giveBack(1) 750",
                 "admit(0, true) 3", "admit(0, true) throws IllegalState", "giveBack(2..3) 750", "admit(0, true) 4",
                 "admit(0, true) 5", "admit(0, true) throws IllegalState");
+        Runs.run("4: 2 such GUEST ones (with isGuest): they do not hinder a MEMBER one",
+                "join(0)", "admit(0, false)", "2 x admit(0, true)", "close(0..11, true)", "giveBack(0) 0",
+                "admit(0, true) throws IllegalState", "admit(0, false) 3", "admit(0, true) throws IllegalState",
+                "giveBack(1) 750", "admit(0, true) 4");
         Runs.run("a reading: guests of a void MEMBER ticket stay, and count",
                 "join(0)", "admit(0, false)", "admit(0, true)", "close(0..11, true)", "giveBack(0) 0", "close(4, false)",
                 "enter(1, 4) true", "admit(0, false) 2", "admit(0, true) 3", "admit(0, true) throws IllegalState");
